@@ -540,7 +540,8 @@ public final class OverLine {
         private final Places[] levels;
         // Levels below this one are empty.
         private int first;
-        // This level and all above hold every place where the thing can be.
+        // This level and all above stand for every place where the thing can be; none of
+        // them is written out before the next tick needs it.
         private int full;
 
         Tally() {
@@ -557,7 +558,7 @@ public final class OverLine {
             full = 0;
             for (int tick = a; tick <= b; tick++) {
                 advance(mover, tick);
-                countTick(counted, mover.reachAt(tick));
+                countTick(counted);
                 narrow(mover.reachAt(tick));
             }
             return first;
@@ -570,7 +571,7 @@ public final class OverLine {
             levels[full].setTo(mover.reachAt(tick));
         }
 
-        private void countTick(Places counted, Box box) {
+        private void countTick(Places counted) {
             // From the top down, so that each level still finds the one below as it was.
             for (int k = full; k > first; k--) {
                 levels[k].takeWithin(counted, levels[k - 1]);
@@ -578,7 +579,6 @@ public final class OverLine {
             levels[first].drop(counted);
             if (full < TICKS) {
                 full++;
-                levels[full].setTo(box);
             }
         }
 

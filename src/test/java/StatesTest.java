@@ -149,6 +149,9 @@ public final class StatesTest {
         dueApart("one tick on", x, 11, 16, 24);
         dueApart("two ticks before", x, 8, 12, 28);
         dueApart("boxes meet", x, 15, 0, 40);
+        dueApart("one in the other", x, 30, 0, 63);
+        OverLine near = two(1, Check.at(30, 30), 2, Check.at(31, 30));
+        dueApart("boxes overlap", near, 13, 0, 10);
         OverLine y = two(2, Check.at(20, 20), 1, Check.at(20, 40));
         dueApart("one in front of the other", y, 12, 14, 26);
         dueApart("nowhere seen", two(0, 0, 7, 0), 79, 0, 63);

@@ -14,6 +14,8 @@ public final class StretchesTest {
         standingStill();
         waysThatCostTurns();
         edgesOfTheField();
+        manyNumbersAtOnce();
+        narrowWayThatIsTakenEarly();
         wrongStretches();
         check.end();
     }
@@ -154,23 +156,65 @@ public final class StretchesTest {
         dueStay("long way out", x, 10, 30, 6, 21);
     }
 
+    /** Outside the ground are a corner and one place more: from one to the other is a step, or isn't. */
     private static void edgesOfTheField() {
         for (int speed = 1; speed <= 7; speed++) {
             for (int corner = 0; corner < 4; corner++) {
                 int cx = corner % 2 * 63;
                 int cy = corner / 2 * 63;
-                OverLine x = one(speed);
-                x.draw(0, 0, 4095, true);
-                for (int d = 1; d <= speed; d++) {
-                    int px = Math.abs(cx - d);
-                    x.draw(0, Check.at(px, cy), Check.at(px, cy), false);
-                    x.see(0, 5, Check.at(cx, cy), 0);
-                    check.due("gap " + d + " of speed " + speed, x.stay(0, 0, 5, 6, 0), 1);
-                    x.draw(0, Check.at(px, cy), Check.at(px, cy), true);
+                for (int d = 1; d <= speed + 1; d++) {
+                    dueStep(speed, cx, cy, Math.abs(cx - d), cy, d <= speed);
+                    dueStep(speed, cx, cy, cx, Math.abs(cy - d), d <= speed);
+                    dueStep(speed, cx, cy, Math.abs(cx - d), Math.abs(cy - 1), d <= speed);
                 }
-                check.due("no gap", x.stay(0, 0, 5, 6, 0), 2);
             }
         }
+    }
+
+    private static void dueStep(int speed, int cx, int cy, int px, int py, boolean free) {
+        OverLine x = one(speed);
+        x.draw(0, 0, 4095, true);
+        x.draw(0, Check.at(cx, cy), Check.at(cx, cy), false);
+        x.draw(0, Check.at(px, py), Check.at(px, py), false);
+        x.see(0, 5, Check.at(cx, cy), 1);
+        x.see(0, 6, Check.at(px, py), 0);
+        boolean near = Math.abs(cx - px) <= 1 && Math.abs(cy - py) <= 1;
+        String call = "speed " + speed + ", " + cx + " " + cy + " to " + px + " " + py;
+        check.due(call + ", entered", x.entered(0, 0, 5, 6), free ? -1 : 5);
+        dueStay(call, x, 5, 6, free ? 0 : 1, near && !free ? 2 : 1);
+    }
+
+    /** A belt that is slow to cross, with a long way around: each place has another number of ticks. */
+    private static void manyNumbersAtOnce() {
+        OverLine x = one(1);
+        x.draw(0, 0, Check.at(31, 63), true);
+        x.see(0, 0, Check.at(0, 30), 0);
+        dueStay("half a field to cross", x, 0, 79, 32, 80);
+        for (int b = 0; b < 80; b++) {
+            check.due("least to " + b, x.stay(0, 0, 0, b, 0), Math.min(b + 1, 32));
+        }
+        x.see(0, 79, Check.at(20, 30), 0);
+        dueStay("there and back again", x, 0, 79, 44, 80);
+        x.draw(0, Check.at(10, 0), Check.at(12, 63), false);
+        dueStay("with a lane to wait in", x, 0, 79, 18, 77);
+        x.draw(0, Check.at(15, 50), Check.at(17, 63), false);
+        dueStay("with a second one out of the way", x, 0, 79, 18, 77);
+    }
+
+    /** Who waits outside is ahead for long, and pays more in the end. */
+    private static void narrowWayThatIsTakenEarly() {
+        OverLine x = one(1);
+        x.draw(0, Check.at(20, 0), Check.at(29, 30), true);
+        x.draw(0, Check.at(20, 31), Check.at(22, 63), true);
+        x.see(0, 0, Check.at(10, 0), 0);
+        x.see(0, 79, Check.at(40, 0), 0);
+        check.due("around", x.stay(0, 0, 0, 79, 0), 3);
+        check.due("around, entered", x.entered(0, 0, 0, 79), 59);
+        check.due("free for long", x.stay(0, 0, 0, 58, 0), 0);
+        x.see(0, 31, Check.at(10, 0), 30);
+        check.due("still early enough", x.stay(0, 0, 0, 79, 0), 3);
+        x.see(0, 45, Check.at(9, 0), 10);
+        check.due("too late to go around", x.stay(0, 0, 0, 79, 0), 10);
     }
 
     private static void wrongStretches() {
