@@ -15,6 +15,10 @@ final class Check {
         due(call, got ? 1 : 0, want ? 1 : 0);
     }
 
+    int asked() {
+        return asked;
+    }
+
     boolean isClean() {
         return wrong == 0;
     }

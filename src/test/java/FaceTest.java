@@ -75,6 +75,10 @@ public final class FaceTest {
             check.due("at most twenty fields " + each, each.getDeclaredFields().length <= 20, true);
             for (Method method : each.getDeclaredMethods()) {
                 check.due("a name of its own: " + method, open.contains(method.getName()), false);
+                check.due("at most seven parameters: " + method, method.getParameterCount() <= 7, true);
+            }
+            for (Constructor<?> made : each.getDeclaredConstructors()) {
+                check.due("at most seven parameters: " + made, made.getParameterCount() <= 7, true);
             }
         }
         for (Method method : OverLine.class.getDeclaredMethods()) {

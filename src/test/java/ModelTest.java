@@ -3,6 +3,8 @@ import java.util.Random;
 /** Random runs of calls, the same ones each time, answered by the class and by the plain model. */
 public final class ModelTest {
     private static final Check check = new Check();
+    private static final int CALLS_OF_AN_OBJECT = 512;
+    private static final int MOST_CALLS_OF_A_STEP = 8;
     private static final int[] WILD = {-1, -2, 64, 80, 4096, Integer.MIN_VALUE, Integer.MAX_VALUE};
 
     private final Random random;
@@ -30,13 +32,14 @@ public final class ModelTest {
     }
 
     private void run() {
+        int last = check.asked() + CALLS_OF_AN_OBJECT - MOST_CALLS_OF_A_STEP;
         int callsBefore = random.nextInt(4);
         for (int i = 0; i < callsBefore; i++) {
             call(random.nextInt(14));
         }
         make();
         make();
-        for (int i = 0; i < 100 && check.isClean(); i++) {
+        for (int i = 0; i < 100 && check.isClean() && check.asked() <= last; i++) {
             call(random.nextInt(14));
         }
     }
@@ -57,11 +60,20 @@ public final class ModelTest {
         return wild(random.nextInt(12) == 0 ? random.nextInt(most + 1) : random.nextInt(2));
     }
 
+    /** The ends of a limit come far more often than by chance. */
+    private int endOr(int usual, int most) {
+        int which = random.nextInt(16);
+        return which == 0 ? 0 : which == 1 ? most : usual;
+    }
+
     private int tick() {
-        return wild(random.nextInt(80));
+        return wild(endOr(random.nextInt(80), 79));
     }
 
     private int near() {
+        if (random.nextInt(16) == 0) {
+            return random.nextInt(2) * 63;
+        }
         return Math.max(0, Math.min(63, middle - range + random.nextInt(2 * range + 1)));
     }
 
@@ -89,7 +101,7 @@ public final class ModelTest {
         int thing = number(6);
         int tick = tick();
         int where = place();
-        int radius = wild(random.nextInt(6) == 0 ? random.nextInt(64) : random.nextInt(6));
+        int radius = wild(endOr(random.nextInt(6) == 0 ? random.nextInt(64) : random.nextInt(6), 63));
         check.due(name + "see(" + thing + ", " + tick + ", " + where + ", " + radius + ")",
             over.see(thing, tick, where, radius), model.see(thing, tick, where, radius));
         check.due(name + "jumps(" + thing + ")", over.jumps(thing), model.jumps(thing));
@@ -158,7 +170,7 @@ public final class ModelTest {
     private void look() {
         int thing = number(6);
         int ground = number(4);
-        int delay = wild(random.nextInt(random.nextInt(5) == 0 ? 80 : 8));
+        int delay = wild(endOr(random.nextInt(random.nextInt(5) == 0 ? 80 : 8), 79));
         for (int i = 0; i < 8; i++) {
             int tick = tick();
             check.due(name + "look(" + thing + ", " + ground + ", " + tick + ", " + delay + ")",

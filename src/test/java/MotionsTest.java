@@ -16,6 +16,8 @@ public final class MotionsTest {
     private final int from;
     private final int length;
     private final List<int[]> sights = new ArrayList<>();
+    // Held here, too: to ask for each place of each motion would go far beyond an object's 512 calls.
+    private final boolean[] ground = new boolean[4096];
     private List<int[]> motions = new ArrayList<>();
     private int jumps = 0;
 
@@ -86,7 +88,14 @@ public final class MotionsTest {
             int ay = near(y, range);
             int bx = Math.min(63, ax + random.nextInt(range));
             int by = Math.min(63, ay + random.nextInt(range));
-            over.draw(0, Check.at(ax, ay), Check.at(bx, by), i != 1);
+            for (int place = Check.at(ax, ay); place <= Check.at(bx, by); place++) {
+                ground[place] = place % 64 < ay || place % 64 > by ? ground[place] : i != 1;
+            }
+            int all = 0;
+            for (boolean place : ground) {
+                all += place ? 1 : 0;
+            }
+            check.due("draw", over.draw(0, Check.at(ax, ay), Check.at(bx, by), i != 1), all);
         }
     }
 
@@ -140,7 +149,7 @@ public final class MotionsTest {
         int in = 0;
         for (int place = 0; place < 4096; place++) {
             all += can[place] ? 1 : 0;
-            in += can[place] && over.has(0, place) ? 1 : 0;
+            in += can[place] && ground[place] ? 1 : 0;
         }
         check.due("least x", over.where(0, from + i, 0), lowX);
         check.due("greatest x", over.where(0, from + i, 1), highX);
@@ -158,7 +167,7 @@ public final class MotionsTest {
             int in = 0;
             int first = length;
             for (int t = i; t <= j; t++) {
-                if (over.has(0, motion[t])) {
+                if (ground[motion[t]]) {
                     in++;
                     first = Math.min(first, t);
                 }
