@@ -211,8 +211,10 @@ public final class OverLine {
 
     private int sightsOfAll() {
         int all = 0;
-        for (int i = 0; i < thingsMade; i++) {
-            all += things[i].sights();
+        for (Thing each : things) {
+            if (each != null) {
+                all += each.sights();
+            }
         }
         return all;
     }
